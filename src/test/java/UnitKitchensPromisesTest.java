@@ -336,6 +336,9 @@ public final class UnitKitchensPromisesTest {
         is(x.kitchen(0, 3), 500);
         x.set(4, 20);
         is(x.cook(0, 1, 11), 1);
+        x.undo();
+        x.set(4, 1);
+        is(x.cook(0, 1, 11), 11);
         cookTheGreenDish();
     }
 
@@ -472,6 +475,10 @@ public final class UnitKitchensPromisesTest {
         is(x.lorry(1, 0), 2);
         x.set(0, 1);
         is(x.drive(0, 0), 1);
+        x.undo();
+        x.set(0, 10);
+        is(x.drive(0, 3), 96 + 95);
+        x.undo();
         x.undo();
         is(x.lorry(0, 0), 1);
         is(x.drive(1, 0), 1);
@@ -1018,6 +1025,11 @@ public final class UnitKitchensPromisesTest {
             cookAll(x, 0, 0, 3);
             x.load(0, 0, 0, 1);
             x.pass(17);
+            if (call == 13) {
+                // so that in the minutes meals are cooked, served and thrown away
+                x.addUnit(0, 4, 2, 5, 30);
+                x.cook(0, 1, 40);
+            }
             is(x.count(16), 6);
             long before = look(x);
             type(x, call == 14 ? "0:4@1+30" : "");
@@ -1140,6 +1152,10 @@ public final class UnitKitchensPromisesTest {
         x.pass(1);
         is(x.kitchen(0, 8), 2);
         is(x.kitchen(0, 9), 7);
+        x.load(0, 0, 2, 1);
+        is(x.kitchen(0, 9), 7);
+        is(x.lorry(0, 6), 7);
+        x.undo();
         is(x.kitchen(0, 10), 7);
         is(x.kitchen(0, 11), 5);
         x.pass(1);
@@ -1214,6 +1230,31 @@ public final class UnitKitchensPromisesTest {
             is(x.count(what), then[what]);
         }
         is(x.count(15), x.unit(0, 10) + x.unit(1, 10) + x.unit(2, 10) + x.unit(3, 10));
+        x.wrap(0);
+        is(x.count(14), 16 + x.unit(0, 11));
+        is(x.unit(0, 11) + x.count(13), 26);
+        // as much of all as there can be
+        UnitKitchens y = film();
+        for (int i = 0; i < 4; i++) {
+            y.addPlace(9, 9);
+            y.addLorry(0);
+        }
+        for (int i = 0; i < 3; i++) {
+            y.addKitchen(0);
+        }
+        for (int i = 0; i < 12; i++) {
+            y.addUnit(0, 300, 1, 1, 30);
+        }
+        y.pass(31);
+        is(y.digest(), listed(y, ""));
+        int[] full = {8, 3, 4, 12, 12, 3600, 31, 0, 0, 0, 0, 0, 7200, 7200, 0, 3600 * 14 + 7200, 6};
+        for (int what = 0; what < 17; what++) {
+            is(y.count(what), full[what]);
+        }
+        int[] there = {0, 0, 12, 3, 4, 0, 7200};
+        for (int what = 0; what < 7; what++) {
+            is(y.place(0, what), there[what]);
+        }
         fails(ARGUMENT, () -> x.count(-1));
         fails(ARGUMENT, () -> x.count(17));
         fails(ARGUMENT, () -> x.count(MIN));
@@ -1258,6 +1299,10 @@ public final class UnitKitchensPromisesTest {
         fails(ARGUMENT, () -> x.ifPassed(201, 0));
         fails(ARGUMENT, () -> x.ifPassed(1, -1));
         fails(ARGUMENT, () -> x.ifPassed(1, 4));
+        x.pass(43);
+        is(x.count(9), 1);
+        is(x.ifPassed(1, 1), 5);
+        x.undo();
         x.pass(50);
         is(x.ifPassed(1, 2), 24);
         is(x.ifPassed(1, 0), 0);
@@ -1277,6 +1322,7 @@ public final class UnitKitchensPromisesTest {
         is(x.callsIn(1000, 0), 0);
         x.addUnit(0, 9, 4, 3, 30);
         x.addUnit(1, 8, 1, 600, 600);
+        is(x.callsIn(1, 0), 0);
         is(x.callsIn(2, 0), 0);
         is(x.callsIn(3, 0), 4);
         is(x.callsIn(3, 1), 5);
@@ -1479,6 +1525,24 @@ public final class UnitKitchensPromisesTest {
         x.undo();
         is(x.digest(), listed(x, "0:5~!"));
         is(x.digest(), x.digest());
+        // a share of 1.0, and the least shares
+        UnitKitchens z = kitchenAndLorry();
+        z.addUnit(0, 1, 0, 1, 600);
+        z.cook(0, 0, 1);
+        z.pass(1);
+        is(z.digest(), listed(z, ""));
+        for (int i = 0; i < 9; i++) {
+            z.addUnit(1, 300, 0, 1, 30);
+            z.pass(100);
+            is(z.digest(), listed(z, ""));
+        }
+        // calls of the next 120 minutes are in it, later ones are not
+        UnitKitchens y = film();
+        y.addUnit(0, 7, 3, 120, 600);
+        is(y.digest(), listed(y, ""));
+        y.undo();
+        y.addUnit(0, 7, 3, 121, 600);
+        is(y.digest(), listed(y, ""));
     }
 
     private static long listed(UnitKitchens x, String buffer) {
