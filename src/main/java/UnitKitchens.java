@@ -512,7 +512,10 @@ public final class UnitKitchens {
         }
     }
 
-    /** The longest time for which meals would have been owed to a unit whose penalty can still grow. */
+    /**
+     * A grace is enough if it is the longest time for which meals would be owed to a unit whose penalty can still
+     * grow, as neither what is owed nor what is served depends on the grace.
+     */
     private int leastGrace(int minutes) {
         int longest = 0;
         ahead.copyFrom(film);
