@@ -335,6 +335,22 @@ public final class UnitKitchensAnswersEdgesTest extends Edges {
             is(x.ifPassed(40, 1), 0);
             is(x.ifPassed(41, 1), 9);
         });
+        edge("promise 28", "what was served, thrown away and charged before does not count", () -> {
+            UnitKitchens x = kit();
+            x.set(1, 0);
+            x.addUnit(0, 5, 2, 1, 600);
+            cookAll(x, 0, 0, 3);
+            cookAll(x, 0, 1, 6);
+            x.addUnit(1, 4, 2, 1, 600);
+            x.pass(41);
+            is(x.count(8), 5);
+            is(x.count(9), 4);
+            is(x.count(15), 4 * 40);
+            is(x.ifPassed(1, 0), 0);
+            is(x.ifPassed(1, 1), 0);
+            is(x.ifPassed(1, 2), 4);
+            is(x.ifPassed(1, 3), 4);
+        });
         edge("promise 28", "penalties grow after just setting 1 minutes and one more", () -> {
             UnitKitchens x = places();
             x.addUnit(0, 5, 2, 1, 600);
@@ -732,6 +748,16 @@ public final class UnitKitchensAnswersEdgesTest extends Edges {
             y.wrap(1);
             is(y.enoughGrace(200), 0);
         });
+        edge("promise 32", "calls that a unit would have had after it has wrapped or joined need none", () -> {
+            UnitKitchens x = places();
+            x.addUnit(0, 5, 2, 1, 30);
+            x.addUnit(0, 5, 2, 10, 30);
+            x.addUnit(0, 5, 2, 600, 600);
+            x.wrap(0);
+            x.join(1, 2);
+            is(x.enoughGrace(200), 0);
+            is(x.ifPassed(200, 2), 0);
+        });
         edge("promise 32", "a penalty that is at its greatest does not grow, one a little below it does", () -> {
             UnitKitchens x = places();
             x.set(1, 0);
@@ -858,14 +884,25 @@ public final class UnitKitchensAnswersEdgesTest extends Edges {
             }
         });
         edge("promise 34", "the bits of the share: 0.0, 1.0, and shares between them", () -> {
-            UnitKitchens x = kit();
-            x.addUnit(0, 7, 0, 1, 30);
-            x.pass(1);
-            is(x.digest(), hashed(x, ""));
-            for (int i = 0; i < 7; i++) {
+            for (int served = 0; served <= 7; served++) {
+                UnitKitchens x = kit();
+                x.addUnit(0, 7, 0, 1, 30);
+                x.pass(1);
+                for (int i = 0; i < served; i++) {
+                    x.cook(0, 0, 1);
+                    x.pass(1);
+                }
+                isShare(x, served / 7.0);
+                is(x.digest(), hashed(x, ""));
+            }
+        });
+        edge("promise 34", "the bits of a share that is a power of 2: 1/2, 1/4, 1/8", () -> {
+            for (int many = 2; many <= 8; many *= 2) {
+                UnitKitchens x = kit();
+                x.addUnit(0, many, 0, 1, 600);
                 x.cook(0, 0, 1);
                 x.pass(1);
-                isShare(x, (i + 1) / 7.0);
+                isShare(x, 1.0 / many);
                 is(x.digest(), hashed(x, ""));
             }
         });

@@ -1506,34 +1506,32 @@ public final class UnitKitchensPromisesTest {
             hash = 31 * hash + value;
         }
         is(new UnitKitchens().digest(), hash);
-        UnitKitchens x = kitchenAndLorry();
-        x.addLorry(3);
-        x.addUnit(0, 7, 0, 1, 60);
-        x.addUnit(1, 9, 3, 2, 70);
-        x.addUnit(1, 9, 3, 2, 70);
-        x.wrap(2);
-        x.cook(0, 0, 30);
+        UnitKitchens x = cookingForTwo();
         is(x.digest(), listed(x, ""));
         x.pass(3);
         x.load(0, 0, 0, 2);
         is(x.digest(), listed(x, ""));
-        x.drive(0, 1);
-        type(x, "0:5~!");
-        is(x.digest(), listed(x, "0:5~!"));
-        x.pass(50);
-        x.undo();
-        x.undo();
-        is(x.digest(), listed(x, "0:5~!"));
-        is(x.digest(), x.digest());
+        UnitKitchens w = cookingForTwo();
+        w.pass(3);
+        w.load(0, 0, 0, 2);
+        w.drive(0, 1);
+        type(w, "0:5~!");
+        is(w.digest(), listed(w, "0:5~!"));
+        w.pass(50);
+        w.undo();
+        w.undo();
+        is(w.digest(), listed(w, "0:5~!"));
+        is(w.digest(), w.digest());
         // a share of 1.0, and the least shares
-        UnitKitchens z = kitchenAndLorry();
-        z.addUnit(0, 1, 0, 1, 600);
-        z.cook(0, 0, 1);
-        z.pass(1);
-        is(z.digest(), listed(z, ""));
-        for (int i = 0; i < 9; i++) {
-            z.addUnit(1, 300, 0, 1, 30);
-            z.pass(100);
+        for (int many = 0; many < 10; many++) {
+            UnitKitchens z = kitchenAndLorry();
+            z.addUnit(0, 1, 0, 1, 600);
+            z.cook(0, 0, 1);
+            z.pass(1);
+            for (int i = 0; i < many; i++) {
+                z.addUnit(1, 300, 0, 1, 30);
+                z.pass(100);
+            }
             is(z.digest(), listed(z, ""));
         }
         // calls of the next 120 minutes are in it, later ones are not
@@ -1543,6 +1541,18 @@ public final class UnitKitchensPromisesTest {
         y.undo();
         y.addUnit(0, 7, 3, 121, 600);
         is(y.digest(), listed(y, ""));
+    }
+
+    /** Two units work, one has wrapped; a kitchen cooks, and a lorry stands at each of two places. */
+    private static UnitKitchens cookingForTwo() {
+        UnitKitchens x = kitchenAndLorry();
+        x.addLorry(3);
+        x.addUnit(0, 7, 0, 1, 60);
+        x.addUnit(1, 9, 3, 2, 70);
+        x.addUnit(1, 9, 3, 2, 70);
+        x.wrap(2);
+        x.cook(0, 0, 30);
+        return x;
     }
 
     private static long listed(UnitKitchens x, String buffer) {

@@ -3,19 +3,25 @@ import java.lang.management.ManagementFactory;
 import java.lang.reflect.Array;
 import java.lang.reflect.Constructor;
 import java.lang.reflect.Field;
+import java.lang.reflect.InvocationTargetException;
 import java.lang.reflect.Method;
 import java.lang.reflect.Modifier;
 import java.nio.file.Files;
 import java.nio.file.Path;
 import java.util.ArrayDeque;
 import java.util.ArrayList;
+import java.util.Arrays;
 import java.util.Collections;
+import java.util.Comparator;
 import java.util.Deque;
 import java.util.HashSet;
 import java.util.IdentityHashMap;
 import java.util.List;
+import java.util.Random;
 import java.util.Set;
 import java.util.TreeSet;
+import java.util.regex.Matcher;
+import java.util.regex.Pattern;
 
 /** The face of the class, the rules of ../shared/LANGUAGE.md that a text or the machine can tell, and the room. */
 public final class UnitKitchensRulesTest {
@@ -40,6 +46,11 @@ public final class UnitKitchensRulesTest {
     private static final int MOST_CELLS = 14000;
     private static final int MOST_BYTES = 100000;
 
+    private static final Pattern METHOD_OF_DOCUMENT = Pattern.compile(" {4}public \\w+ (\\w+)\\(.*\\)( throws (.*))?;");
+    private static final int RUNS = 40;
+    /** Beyond the 512th call answers are free, but no call may throw by itself even then. */
+    private static final int CALLS_A_RUN = 5000;
+
     private static int wrong = 0;
 
     public static void main(String[] args) throws Exception {
@@ -48,6 +59,8 @@ public final class UnitKitchensRulesTest {
         source();
         room();
         callsMakeNothing();
+        throwsClauses();
+        onlyNamedExceptions();
         System.out.println(wrong == 0 ? "the rules are kept" : wrong + " rules are broken");
         if (wrong != 0) {
             System.exit(1);
@@ -213,5 +226,64 @@ public final class UnitKitchensRulesTest {
             x.callsIn(1000, 0);
             x.bestLorry(0);
         }
+    }
+
+    /** Each method declares the exceptions that the document's face declares, in its order. */
+    private static void throwsClauses() throws IOException {
+        int found = 0;
+        for (String line : Files.readAllLines(Path.of("../shared/DOC.md"))) {
+            Matcher matcher = METHOD_OF_DOCUMENT.matcher(line);
+            if (!matcher.matches()) {
+                continue;
+            }
+            found++;
+            String due = matcher.group(3) == null ? "" : matcher.group(3);
+            for (Method m : UnitKitchens.class.getMethods()) {
+                if (m.getName().equals(matcher.group(1))) {
+                    List<String> declared = new ArrayList<>();
+                    for (Class<?> type : m.getExceptionTypes()) {
+                        declared.add(type.getSimpleName());
+                    }
+                    holds(String.join(", ", declared).equals(due), "the throws clause of " + m.getName());
+                }
+            }
+        }
+        holds(found == FACE.length, "the methods of the document that were found: " + found);
+    }
+
+    /** Whatever the arguments and the state, a call throws nothing but what its throws clause names. */
+    private static void onlyNamedExceptions() throws IllegalAccessException {
+        Method[] methods = UnitKitchens.class.getMethods();
+        methods = Arrays.stream(methods).filter(m -> m.getDeclaringClass() == UnitKitchens.class)
+                .sorted(Comparator.comparing(Method::getName)).toArray(Method[]::new);
+        for (int seed = 0; seed < RUNS; seed++) {
+            Random random = new Random(seed);
+            UnitKitchens x = new UnitKitchens();
+            for (int call = 0; call < CALLS_A_RUN; call++) {
+                Method m = methods[random.nextInt(methods.length)];
+                Object[] arguments = new Object[m.getParameterCount()];
+                for (int i = 0; i < arguments.length; i++) {
+                    arguments[i] = anyArgument(m.getName(), random);
+                }
+                try {
+                    m.invoke(x, arguments);
+                } catch (InvocationTargetException e) {
+                    holds(List.of(m.getExceptionTypes()).contains(e.getCause().getClass()),
+                            m.getName() + Arrays.toString(arguments) + " throws " + e.getCause());
+                }
+            }
+        }
+    }
+
+    private static int anyArgument(String method, Random random) {
+        int kind = random.nextInt(40);
+        if (method.equals("append") && kind > 1) {
+            return "0123:g@+,05".charAt(random.nextInt(11));
+        }
+        if (method.equals("pass") && kind > 10) {
+            return random.nextInt(5);
+        }
+        return kind == 0 ? Integer.MIN_VALUE : kind == 1 ? Integer.MAX_VALUE : kind < 30 ? random.nextInt(8)
+                : kind < 35 ? random.nextInt(70) : random.nextInt(700) - 20;
     }
 }

@@ -569,6 +569,18 @@ public final class UnitKitchensTermsEdgesTest extends Edges {
             x.drive(0, 1);
             is(x.pass(1), 0);
         });
+        edge("A minute 6", "a kitchen serves where no lorry stands, a lorry where no kitchen is", () -> {
+            UnitKitchens x = kit();
+            cookAll(x, 0, 0, 6);
+            x.load(0, 0, 0, 3);
+            x.drive(0, 1);
+            x.pass(7);
+            x.addUnit(0, 3, 0, 1, 30);
+            x.addUnit(1, 3, 0, 1, 30);
+            is(x.pass(1), 6);
+            is(x.kitchen(0, 6), 0);
+            is(x.lorry(0, 7), 3);
+        });
         edge("A minute 6", "another place at the same x and y is another place", () -> {
             UnitKitchens x = kit();
             cookAll(x, 0, 0, 3);

@@ -480,6 +480,36 @@ public final class UnitKitchensTextsEdgesTest extends Edges {
             is(x.count(6), 0);
             is(x.kitchen(0, 5), 9);
         });
+        edge("Terms, undo", "what each kitchen, lorry and unit counted so far", () -> {
+            UnitKitchens x = kit();
+            x.set(3, 5);
+            x.set(1, 0);
+            cookAll(x, 0, 0, 9);
+            x.load(0, 0, 0, 5);
+            x.addUnit(0, 3, 2, 1, 600);
+            x.addUnit(1, 4, 2, 1, 600);
+            x.cook(0, 1, 20);
+            x.pass(9);
+            are(kitchen(x, 0), 0, 471, 491, 480, NONE, 0, 0, 0, 0, NONE, 29, 23);
+            are(lorry(x, 0), 0, NONE, 0, 0, 0, 0, NONE, 2, 3);
+            are(unit(x, 0), 0, 0, 3, 2, 602, 600, 0, 0, NONE, 3, 0, 0);
+            are(unit(x, 1), 0, 1, 4, 2, 602, 600, 2, 2, 2, 0, 32, 0);
+            x.set(0, 20);
+            x.undo();
+            are(kitchen(x, 0), 0, 471, 491, 480, NONE, 0, 0, 0, 0, NONE, 29, 23);
+            are(lorry(x, 0), 0, NONE, 0, 0, 0, 0, NONE, 2, 3);
+            are(unit(x, 1), 0, 1, 4, 2, 602, 600, 2, 2, 2, 0, 32, 0);
+            x.wrap(1);
+            x.pass(1);
+            x.undo();
+            are(unit(x, 1), 1, NONE, NONE, NONE, NONE, NONE, NONE, NONE, NONE, 0, 32, 4);
+            x.undo();
+            x.undo();
+            are(kitchen(x, 0), 0, 471, 491, 480, 1, 20, 4, 0, 0, 1, 9, 0);
+            are(lorry(x, 0), 0, NONE, 0, 5, 0, 0, 1, 0, 0);
+            are(unit(x, 0), 0, 0, 3, 2, 2, 600, 0, 0, NONE, 0, 0, 0);
+            are(unit(x, 1), 0, 1, 4, 2, 2, 600, 0, 0, NONE, 0, 0, 0);
+        });
         edge("Terms, undo", "a call that changes nothing is saved: each that can change nothing", () -> {
             UnitKitchens x = new UnitKitchens();
             x.addPlace(0, 0);
